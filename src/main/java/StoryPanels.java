@@ -378,7 +378,7 @@ public final class StoryPanels {
         return best;
     }
 
-    /** The slot of the lowest panel of the scene that brings fewer breaks at another place of it. */
+    /** The slot of the lowest panel of a scene that brings fewer breaks at another place of it. */
     private int lowestToMend(int scene) {
         int now = breaksNow();
         if (now == 0) {
@@ -389,9 +389,11 @@ public final class StoryPanels {
             if (slot == ABSENT || board.sceneOf(slot) != scene) {
                 continue;
             }
-            int place = lowestBestPlace(slot, scene);
-            if (breaksWith(slot, scene, place) < now) {
-                return slot;
+            int places = board.placesFor(slot, scene);
+            for (int place = 0; place < places; place++) {
+                if (breaksWith(slot, scene, place) < now) {
+                    return slot;
+                }
             }
         }
         return ABSENT;
