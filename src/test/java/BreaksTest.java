@@ -229,6 +229,9 @@ public final class BreaksTest {
         for (int what = 0; what < dueThen.length; what++) {
             Check.due("23: count(" + what + ") of others", y.count(what), dueThen[what]);
         }
+        StoryPanels z = Check.board("0/1", "0/1,A+0,B+1");
+        z.holder(0, 0);
+        Check.due("23: count(5) goes through the whole board", z.count(5), 2);
         y.moveScene(0, 4);
         Check.due("23: count(5) in another order of scenes", y.count(5), 1);
         for (int wrong : new int[] {-1, 13, MIN, MAX}) {

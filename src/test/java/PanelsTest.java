@@ -251,6 +251,11 @@ public final class PanelsTest {
         Check.due("8: the breaks ahead of it", x.count(3), 1);
         Check.due("8: mend(2)", x.mend(2), 1);
         Check.dueText("8: the stand comes between", Check.line(x), "1 0 2");
+        // Here nothing but the first place, and no other panel, helps.
+        StoryPanels z = Check.board("2/1,A+0", "2/1,A=0", "2/1,A=0");
+        Check.due("8: the picking up at last", z.move(0, 2, 2), 2);
+        Check.due("8: mend(2) to the first place", z.mend(2), 1);
+        Check.dueText("8: the order then", Check.line(z), "0 1 2");
         // Panel 0 can't save any break. Panel 1 saves one at the places 2 and 3 and goes to 2:
         // 0 2 1 3 4. Now 1 can't save any more, but 2 can, at the places 3 and 4, and goes to 3.
         StoryPanels y = Check.board("2/1,B.", "2/2,A>", "2/3,A<", "2/4,A>", "2/5,A<");
