@@ -225,7 +225,7 @@ public final class StoryPanels {
             case 3: return board.placeOf(slot);
             case 4: return board.ticksAhead(board.rankOf(slot));
             case 5: return board.rankOf(slot);
-            case 6: return breaksOfPanel(panel);
+            case 6: return breaksHaving(BREAK_PANEL, panel);
             default: return BAD_VALUE;
         }
     }
@@ -334,11 +334,11 @@ public final class StoryPanels {
             case 3: return breaksNow();
             case 4: return board.eventsOfAll();
             case 5: return propsHeldAtTheEnd();
-            case 6: return breaksOfKind(PICKS_UP_HELD);
-            case 7: return breaksOfKind(PUTS_DOWN_NOT_HELD);
-            case 8: return breaksOfKind(DRAWN_NOT_HELD);
-            case 9: return breaksOfKind(HOLDS_UNDRAWN);
-            case 10: return breaksOfKind(TURNS);
+            case 6: return breaksHaving(BREAK_KIND, PICKS_UP_HELD);
+            case 7: return breaksHaving(BREAK_KIND, PUTS_DOWN_NOT_HELD);
+            case 8: return breaksHaving(BREAK_KIND, DRAWN_NOT_HELD);
+            case 9: return breaksHaving(BREAK_KIND, HOLDS_UNDRAWN);
+            case 10: return breaksHaving(BREAK_KIND, TURNS);
             case 11: return history.size;
             case 12: return text.length;
             default: return BAD_VALUE;
@@ -399,22 +399,12 @@ public final class StoryPanels {
         return ABSENT;
     }
 
-    private int breaksOfPanel(int number) {
+    /** How many breaks have this value as one of the numbers that breakOf() tells. */
+    private int breaksHaving(int what, int value) {
         int all = breaksNow();
         int found = 0;
         for (int rank = 0; rank < all; rank++) {
-            if (continuity.numberOfBreak(rank, BREAK_PANEL) == number) {
-                found++;
-            }
-        }
-        return found;
-    }
-
-    private int breaksOfKind(int kind) {
-        int all = breaksNow();
-        int found = 0;
-        for (int rank = 0; rank < all; rank++) {
-            if (continuity.numberOfBreak(rank, BREAK_KIND) == kind) {
+            if (continuity.numberOfBreak(rank, what) == value) {
                 found++;
             }
         }
