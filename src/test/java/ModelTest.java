@@ -1,4 +1,4 @@
-/** Long runs of calls, made by a plain sequence of numbers, on the program and on the Model. */
+/** Boards of all kinds of three events, and long runs of calls, on the program and on the Model. */
 public final class ModelTest {
     private static final int RUNS = 1500;
     private static final int CALLS = 512;
@@ -8,8 +8,8 @@ public final class ModelTest {
     private static long seed = 20261119;
     private static final int[] acts = new int[4];
 
-    private StoryPanels x = new StoryPanels();
-    private Model m = new Model();
+    private final Counted x = new Counted();
+    private final Model m = new Model();
     private final int run;
     private int calls = 0;
     private final int props;
@@ -23,6 +23,9 @@ public final class ModelTest {
     }
 
     public static void main(String[] args) {
+        Check.sentence("CONTINUITY", "the breaks of any three events, in one panel to three");
+        everyThreeEvents();
+        Check.sentence("Promises 1 to 23", "in long runs of calls");
         for (int run = 0; run < RUNS; run++) {
             new ModelTest(run).go();
         }
@@ -31,6 +34,49 @@ public final class ModelTest {
         Check.due("calls behind which there were over ten breaks", acts[2] > 100 ? 1 : 0, 1);
         Check.due("bestPlaces behind the first one", acts[3] > 100 ? 1 : 0, 1);
         Check.end("ModelTest");
+    }
+
+    /** Of two characters with two props; the first one is of A, for the other way round is no other case. */
+    private static void everyThreeEvents() {
+        String[] kinds = {"+0", "+9", "-0", "-9", "=0", "=9", ">", "<", "."};
+        String[] events = new String[2 * kinds.length];
+        for (int index = 0; index < events.length; index++) {
+            events[index] = (index < kinds.length ? ",A" : ",D") + kinds[index % kinds.length];
+        }
+        for (int first = 0; first < kinds.length; first++) {
+            for (String second : events) {
+                for (String third : events) {
+                    threeEvents("0/1" + events[first] + second + third);
+                    threeEvents("0/1" + events[first], "0/1" + second + third);
+                    threeEvents("0/1" + events[first] + second, "0/1" + third);
+                    threeEvents("0/1" + events[first], "0/1" + second, "0/1" + third);
+                    threeEvents("0/1" + events[first], "1/1" + second, "1/1" + third);
+                }
+            }
+        }
+    }
+
+    private static void threeEvents(String... texts) {
+        Counted x = Check.board(texts);
+        Model m = new Model();
+        for (String text : texts) {
+            m.clearText();
+            for (char sign : text.toCharArray()) {
+                m.type(sign);
+            }
+            m.putPanel();
+        }
+        String told = String.join(" ", texts);
+        int breaks = m.count(3);
+        for (int rank = 0; rank <= breaks; rank++) {
+            for (int what = 0; what < 5; what++) {
+                Check.due(told + ": breakOf(" + rank + ", " + what + ")", x.breakOf(rank, what), m.breakOf(rank, what));
+            }
+        }
+        for (int panel = 0; panel < texts.length; panel++) {
+            Check.due(told + ": holder(0, " + panel + ")", x.holder(0, panel), m.holder(0, panel));
+            Check.due(told + ": holder(9, " + panel + ")", x.holder(9, panel), m.holder(9, panel));
+        }
     }
 
     /** 0 to bound - 1. */

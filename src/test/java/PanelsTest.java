@@ -1,282 +1,406 @@
-/** Promises 2 to 8: the acts on panels and scenes. */
+/** Promises 1 to 4 and 7: a new object, and the acts on one panel. */
 public final class PanelsTest {
-    private static final int MIN = Integer.MIN_VALUE;
-    private static final int MAX = Integer.MAX_VALUE;
+    private static final String SIX_EVENTS = "1/5,A+0,A=0,B>,B.,C<,A-0";
 
     public static void main(String[] args) {
-        promise2PutPanel();
-        promise2Full();
-        promise3Redraw();
+        promise1TheConstants();
+        promise1ANewObject();
+        promise1ObjectsAreApart();
+        promise2BehindTheOthers();
+        promise2TheTextStays();
+        promise2ItsNumber();
+        promise2TheFault();
+        promise2TenOnTheBoard();
+        promise2NinetyNineEver();
+        promise3DurationAndEvents();
+        promise3ItsOwnScene();
+        promise3AnotherScene();
+        promise3Refused();
+        promise3AFullBoard();
         promise4TakeAway();
-        promise5Move();
-        promise5MoveWrongInputs();
-        promise6MoveScene();
+        promise4Unknown();
         promise7Time();
-        promise8Mend();
-        promise8MendTakesTheLowestPanelFirst();
-        promise8MendMovesTwiceAtMost();
+        promise7Refused();
         Check.end("PanelsTest");
     }
 
-    private static void promise2PutPanel() {
-        StoryPanels x = new StoryPanels();
-        Check.write(x, "1/5,A+3");
-        Check.due("2: putPanel()", x.putPanel(), 0);
-        Check.due("2: putPanel() again, for the text stays", x.putPanel(), 1);
-        Check.due("2: the text stays", x.count(12), 7);
-        Check.write(x, "0/9");
-        Check.due("2: putPanel() in an earlier scene", x.putPanel(), 2);
-        Check.write(x, "1/6");
-        Check.due("2: putPanel() behind the others", x.putPanel(), 3);
-        Check.dueText("2: the order", Check.line(x), "2 0 1 3");
-        Check.due("2: putPanel() is an act", x.count(11), 4);
-        Check.due("2: a panel's events are its own", x.panel(0, 2), 1);
-        Check.due("2: events of a panel without any", x.panel(3, 2), 0);
+    private static void promise1TheConstants() {
+        Check.sentence("The public face", "the values of the constants");
+        Check.due("UNKNOWN", StoryPanels.UNKNOWN, -1);
+        Check.due("BAD_VALUE", StoryPanels.BAD_VALUE, -2);
+        Check.due("FULL", StoryPanels.FULL, -3);
+        Check.due("NOT_POSSIBLE", StoryPanels.NOT_POSSIBLE, -4);
+        Check.due("NONE", StoryPanels.NONE, -5);
     }
 
-    private static void promise2Full() {
-        StoryPanels x = new StoryPanels();
+    private static void promise1ANewObject() {
+        Check.sentence("Promise 1", "Creates an empty board.");
+        Counted x = new Counted();
+        for (int what = 0; what <= 12; what++) {
+            Check.due("count(" + what + ")", x.count(what), 0);
+        }
+        for (int scene = 0; scene < 5; scene++) {
+            for (int what = 1; what <= 4; what++) {
+                Check.due("scene(" + scene + ", " + what + ")", x.scene(scene, what), 0);
+            }
+            for (int what = 0; what <= 2; what++) {
+                Check.due("firstBreak(" + scene + ", " + what + ")", x.firstBreak(scene, what), Check.NONE);
+            }
+            Check.due("mend(" + scene + ")", x.mend(scene), Check.NONE);
+        }
+        for (int rank = 0; rank <= 10; rank++) {
+            Check.due("at(" + rank + ")", x.at(rank), Check.NONE);
+            Check.due("breakOf(" + rank + ", 0)", x.breakOf(rank, 0), Check.NONE);
+        }
+        for (int panel = -1; panel <= 10; panel++) {
+            Check.due("panel(" + panel + ", 0)", x.panel(panel, 0), Check.UNKNOWN);
+            Check.due("event(" + panel + ", 0, 0)", x.event(panel, 0, 0), Check.UNKNOWN);
+            Check.due("takeAway(" + panel + ")", x.takeAway(panel), Check.UNKNOWN);
+            Check.due("holder(0, " + panel + ")", x.holder(0, panel), Check.UNKNOWN);
+        }
+        Check.due("undo(), for the history is empty", x.undo(), Check.NONE);
+        Check.due("restore(), for the snapshot is empty", x.restore(), Check.NONE);
+        Check.due("clearText(), for the text is empty", x.clearText(), 0);
+
+        Check.sentence("PANELS AND SCENES", "The scenes stand in an order (at first 0, 1, 2, 3, 4).");
+        for (int scene = 0; scene < 5; scene++) {
+            Check.due("scene(" + scene + ", 0)", x.scene(scene, 0), scene);
+        }
+    }
+
+    private static void promise1ObjectsAreApart() {
+        Check.sentence("Promise 1", "Creates an empty board.");
+        Counted x = Check.board("0/1,A=0", "1/2");
+        x.keep();
+        x.moveScene(1, 0);
+        Counted y = new Counted();
+        Check.due("count(0) beside another object", y.count(0), 0);
+        Check.due("count(1) beside another object", y.count(1), 0);
+        Check.due("count(11) beside another object", y.count(11), 0);
+        Check.due("count(12) beside another object", y.count(12), 0);
+        Check.due("scene(1, 0) beside another object", y.scene(1, 0), 1);
+        Check.due("restore() beside another object", y.restore(), Check.NONE);
+        Check.put(y, "0/99");
+        Check.dueText("the other object's panels", Check.line(x), "1 0");
+        Check.due("the other object's break", x.count(3), 1);
+        Check.due("the other object's duration", x.panel(0, 1), 1);
+    }
+
+    private static void promise2BehindTheOthers() {
+        Check.sentence("Promise 2", "Puts the panel of the text, which stays, behind the others of its scene.");
+        Counted x = Check.board("1/5,A+3", "0/9", "1/6", "4/1", "1/7", "3/2");
+        Check.dueText("the order of the board", Check.line(x), "1 0 2 4 5 3");
+        int[] scenes = {1, 0, 1, 4, 1, 3};
+        int[] durations = {5, 9, 6, 1, 7, 2};
+        int[] events = {1, 0, 0, 0, 0, 0};
+        int[] places = {0, 0, 1, 0, 2, 0};
+        for (int panel = 0; panel < 6; panel++) {
+            Check.due("the scene of panel " + panel, x.panel(panel, 0), scenes[panel]);
+            Check.due("the duration of panel " + panel, x.panel(panel, 1), durations[panel]);
+            Check.due("the events of panel " + panel, x.panel(panel, 2), events[panel]);
+            Check.due("the place of panel " + panel, x.panel(panel, 3), places[panel]);
+        }
+        x.moveScene(4, 0);
+        Check.put(x, "4/1");
+        Check.put(x, "0/1");
+        Check.dueText("the order in another order of scenes", Check.line(x), "3 6 1 7 0 2 4 5");
+        Check.sentence("Promise 2", "This is an act.");
+        Counted y = new Counted();
+        Check.put(y, "2/5");
+        Check.due("the states behind one panel", y.count(11), 1);
+        Check.due("undo()", y.undo(), 0);
+        Check.due("the panels behind undo()", y.count(0), 0);
+    }
+
+    private static void promise2TheTextStays() {
+        Check.sentence("Promise 2", "Puts the panel of the text, which stays, behind the others of its scene.");
+        Counted x = Check.board("1/5,A+3");
+        Check.due("the length of the text", x.count(12), 7);
+        Check.due("putPanel() again", x.putPanel(), 1);
+        Check.due("a character behind the same text", x.type(','), 8);
+        Check.due("a panel of the text that ends too early", x.putPanel(), -108);
+        x.type('B');
+        x.type('.');
+        Check.due("a panel of the longer text", x.putPanel(), 2);
+        Check.due("its events", x.panel(2, 2), 2);
+        Check.due("the events of the first one", x.panel(0, 2), 1);
+    }
+
+    private static void promise2ItsNumber() {
+        Check.sentence("Promise 2", "Returns its number");
+        Counted x = new Counted();
+        Check.write(x, "0/1");
+        Check.due("the first one", x.putPanel(), 0);
+        Check.due("the second one", x.putPanel(), 1);
+        x.takeAway(1);
+        Check.due("the next one, where the latest was taken away", x.putPanel(), 2);
+        x.takeAway(0);
+        x.takeAway(2);
+        Check.due("the next one, on a board that is empty again", x.putPanel(), 3);
+        Check.due("panels so far", x.count(1), 4);
+        Check.due("a panel that was taken away stays away", x.panel(1, 0), Check.UNKNOWN);
+    }
+
+    private static void promise2TheFault() {
+        Check.sentence("Promise 2", "-100 minus the fault of the text if it has one (which is an error)");
+        Counted x = new Counted();
+        Check.due("the fault of the empty text, the lowest one", x.putPanel(), -100);
+        Check.write(x, "0/1,A.,B");
+        Check.due("a fault at the end", x.putPanel(), -108);
+        Check.write(x, "0/12,A+0,B-1,C=2,D+3,A-4,B=9" + ".".repeat(32));
+        Check.due("the length of a full text", x.count(12), 60);
+        Check.due("the highest fault, in a text that is full", x.putPanel(), -128);
+        Check.due("no panel comes of it", x.count(0), 0);
+        Check.due("nor a number", x.count(1), 0);
+        Check.due("nor a state", x.count(11), 0);
+    }
+
+    private static void promise2TenOnTheBoard() {
+        Check.sentence("Promise 2", "FULL if there are 10, or have been 99.");
+        Counted x = new Counted();
         Check.write(x, "4/1");
         for (int number = 0; number < 10; number++) {
-            Check.due("2: panel " + number + " of ten", x.putPanel(), number);
+            Check.due("panel " + number + " of ten", x.putPanel(), number);
         }
-        Check.due("2: the eleventh one", x.putPanel(), Check.FULL);
-        Check.due("2: nothing comes of it", x.count(0), 10);
-        Check.due("2: nor of its history", x.count(11), 4);
+        Check.due("the eleventh one", x.putPanel(), Check.FULL);
+        Check.due("the panels then", x.count(0), 10);
+        Check.due("the panels so far then", x.count(1), 10);
+        Check.due("the places of the scene then", x.scene(4, 1), 10);
+        Check.write(x, "0/1");
+        Check.due("one for another scene", x.putPanel(), Check.FULL);
+        Check.write(x, "0/1,");
+        Check.due("a fault is looked for first", x.putPanel(), -104);
         x.clearText();
-        Check.due("2: the fault is ahead of FULL", x.putPanel(), -100);
-        Check.write(x, "4/1");
-        for (int number = 10; number < 99; number++) {
-            x.takeAway(number - 10);
-            Check.due("2: panel " + number + " of ninety-nine", x.putPanel(), number);
-        }
-        x.takeAway(98);
-        Check.due("2: the hundredth one", x.putPanel(), Check.FULL);
-        Check.due("2: panels so far", x.count(1), 99);
-        Check.due("2: panels on the board", x.count(0), 9);
-        Check.due("2: undo of taking away", x.undo(), 3);
-        Check.due("2: the hundredth one, with ten on the board", x.putPanel(), Check.FULL);
-        Check.due("2: undo of putting", x.undo(), 2);
-        Check.due("2: panels so far are of the state", x.count(1), 98);
-        Check.due("2: so the number is free again", x.putPanel(), 98);
+        Check.due("and so is that of the empty text", x.putPanel(), -100);
+        x.takeAway(4);
+        Check.write(x, "0/1");
+        Check.due("one, where one was taken away", x.putPanel(), 10);
+        Check.due("one more", x.putPanel(), Check.FULL);
+        Check.dueText("the order of the board", Check.line(x), "10 0 1 2 3 5 6 7 8 9");
     }
 
-    private static void promise3Redraw() {
-        StoryPanels x = Check.board("1/5,A+3,B.", "1/6,A=3", "1/7", "2/8");
-        Check.write(x, "1/44,C>,D<,C.");
-        Check.due("3: redraw in its own scene", x.redraw(1), 3);
-        Check.dueText("3: the place stays", Check.line(x), "0 1 2 3");
-        Check.due("3: the duration becomes that of the text", x.panel(1, 1), 44);
-        Check.due("3: the events become those of the text", x.event(1, 1, 0), 3);
-        Check.due("3: no others are left", x.event(1, 3, 0), Check.UNKNOWN);
-        Check.write(x, "2/1");
-        Check.due("3: redraw into another scene", x.redraw(0), 0);
-        Check.dueText("3: behind the others of that scene", Check.line(x), "1 2 3 0");
-        Check.due("3: the scene", x.panel(0, 0), 2);
-        Check.due("3: no event is left", x.panel(0, 2), 0);
-        Check.due("3: the history", x.count(11), 4);
-        x.undo();
-        Check.dueText("3: redraw is undone", Check.line(x), "0 1 2 3");
-        Check.due("3: and its events are back", x.panel(0, 2), 2);
-        Check.write(x, "0/3,A.");
-        Check.due("3: redraw into an earlier, empty scene", x.redraw(2), 1);
-        Check.dueText("3: it begins the board", Check.line(x), "2 0 1 3");
-        int before = x.count(11);
-        Check.due("3: redraw that changes nothing is an act, too", x.redraw(2), 1);
-        Check.due("3: the history then", x.count(11), Math.min(4, before + 1));
-        for (int wrong : new int[] {-1, 4, 10, 99, 100, MIN, MAX}) {
-            Check.due("3: redraw(" + wrong + ")", x.redraw(wrong), Check.UNKNOWN);
+    private static void promise2NinetyNineEver() {
+        Check.sentence("Promise 2", "FULL if there are 10, or have been 99.");
+        Counted x = new Counted();
+        Check.write(x, "3/7");
+        for (int number = 0; number < 99; number++) {
+            Check.due("panel " + number + " of ninety-nine", x.putPanel(), number);
+            if (number < 97) {
+                x.takeAway(number);
+            }
         }
+        Check.due("panels so far", x.count(1), 99);
+        Check.due("panels on the board", x.count(0), 2);
+        Check.due("the hundredth one", x.putPanel(), Check.FULL);
+        Check.due("the latest one's duration", x.panel(98, 1), 7);
+        Check.due("redraw of the latest one", x.redraw(98), 0);
+        x.takeAway(97);
+        Check.due("taking the latest one away", x.takeAway(98), 0);
+        Check.due("the hundredth one, on an empty board", x.putPanel(), Check.FULL);
         x.clearText();
-        Check.due("3: UNKNOWN is ahead of the fault", x.redraw(4), Check.UNKNOWN);
-        Check.due("3: the fault", x.redraw(3), -100);
+        Check.due("a fault is looked for first", x.putPanel(), -100);
+        Check.write(x, "3/7");
+        Check.due("undo of the latest taking away", x.undo(), 3);
+        Check.due("the panel that comes back", x.at(0), 98);
+        x.undo();
+        x.undo();
+        Check.due("undo of the putting", x.undo(), 0);
+        Check.due("panels so far are of the state", x.count(1), 98);
+        Check.due("so the latest number is free again", x.putPanel(), 98);
+        Check.due("and none behind it", x.putPanel(), Check.FULL);
+    }
+
+    private static void promise3DurationAndEvents() {
+        Check.sentence("Promise 3", "its duration and its events become those of the text");
+        Counted x = Check.board("1/5,A+3,B.", "1/6");
+        Check.write(x, "1/99,C>,D-8,C.");
+        Check.due("redraw of two events to three", x.redraw(0), 3);
+        Check.due("the duration", x.panel(0, 1), 99);
+        int[][] events = {{2, 3, Check.NONE}, {3, 1, 8}, {2, 5, Check.NONE}};
+        for (int event = 0; event < 3; event++) {
+            for (int what = 0; what < 3; what++) {
+                Check.due("event(0, " + event + ", " + what + ")", x.event(0, event, what), events[event][what]);
+            }
+        }
+        Check.due("the other panel's duration", x.panel(1, 1), 6);
+        Check.due("the other panel's events", x.panel(1, 2), 0);
+        Check.sentence("Promise 3", "Returns how many events it has then");
+        Check.write(x, "1/1");
+        Check.due("redraw to no event", x.redraw(0), 0);
+        Check.due("its events", x.panel(0, 2), 0);
+        Check.due("event(0, 0, 0)", x.event(0, 0, 0), Check.UNKNOWN);
+        Check.due("its break is gone", x.count(3), 0);
+        Check.write(x, SIX_EVENTS);
+        Check.due("redraw to six events", x.redraw(1), 6);
+        Check.due("the kind of the sixth one", x.event(1, 5, 1), 1);
+        Check.write(x, "1/1,D<");
+        Check.due("redraw of six events to one", x.redraw(1), 1);
+        Check.due("the second one is gone", x.event(1, 1, 0), Check.UNKNOWN);
+        Check.due("the first one", x.event(1, 0, 0), 3);
+        Check.due("the text stays", x.count(12), 6);
+    }
+
+    private static void promise3ItsOwnScene() {
+        Check.sentence("Promise 3", "its number stays, and its place, if the scene of the text is its own");
+        Counted x = Check.board("0/9", "1/5,A+3,B.", "1/6,A=3", "1/7", "2/8");
+        Check.write(x, "1/44,C>");
+        for (int panel = 1; panel <= 3; panel++) {
+            Check.due("redraw(" + panel + ")", x.redraw(panel), 1);
+            Check.dueText("the order behind it", Check.line(x), "0 1 2 3 4");
+            Check.due("the place of it", x.panel(panel, 3), panel - 1);
+            Check.due("the duration of it", x.panel(panel, 1), 44);
+        }
+        Check.due("panels so far", x.count(1), 5);
+        Check.sentence("Promise 3", "This is an act.");
+        Check.due("the states", x.count(11), 4);
+        Check.due("undo()", x.undo(), 3);
+        Check.due("the duration is back", x.panel(3, 1), 7);
+        Check.due("redraw that changes something", x.redraw(3), 1);
+        Check.due("undo() of it", x.undo(), 3);
+        x.undo();
+        x.redraw(1);
+        Check.due("redraw that changes nothing is recorded, too", x.count(11), 3);
+    }
+
+    private static void promise3AnotherScene() {
+        Check.sentence("Promise 3", "otherwise it goes behind the others of that scene");
+        Counted x = Check.board("1/5,A+3,B.", "1/6,A=3", "1/7", "2/8", "2/9");
+        Check.write(x, "2/1");
+        Check.due("redraw(0) into a later scene", x.redraw(0), 0);
+        Check.dueText("the order of the board", Check.line(x), "1 2 3 4 0");
+        Check.due("its scene", x.panel(0, 0), 2);
+        Check.due("its place", x.panel(0, 3), 2);
+        x.undo();
+        Check.dueText("the order behind undo()", Check.line(x), "0 1 2 3 4");
+        Check.due("its events behind undo()", x.panel(0, 2), 2);
+        Check.write(x, "1/1");
+        x.redraw(3);
+        Check.dueText("the order behind redraw(3) into an earlier scene", Check.line(x), "0 1 2 3 4");
+        Check.due("its scene", x.panel(3, 0), 1);
+        Check.due("its place", x.panel(3, 3), 3);
+        Check.due("the place of the next one", x.panel(4, 3), 0);
+        Check.write(x, "0/3,A.");
+        Check.due("redraw(2) into an empty scene", x.redraw(2), 1);
+        Check.dueText("the order then", Check.line(x), "2 0 1 3 4");
+        Check.write(x, "4/3");
+        Check.due("redraw(0) into an empty scene at the end", x.redraw(0), 0);
+        Check.dueText("the order at last", Check.line(x), "2 1 3 4 0");
+        Check.due("the scene that it left", x.scene(1, 1), 2);
+    }
+
+    private static void promise3Refused() {
+        Check.sentence("Promise 3", "UNKNOWN; -100 minus the fault of the text if it has one (which is an error)");
+        Counted x = Check.board("1/5,A+3", "1/6", "1/7");
+        x.takeAway(1);
+        String told = Check.told(x);
+        for (int panel : Check.wrong(-1, 1, 3, 10, 98, 99)) {
+            Check.write(x, "0/1");
+            Check.due("redraw(" + panel + ")", x.redraw(panel), Check.UNKNOWN);
+            x.clearText();
+            Check.due("redraw(" + panel + ") by the empty text", x.redraw(panel), Check.UNKNOWN);
+        }
+        Check.due("redraw(0) by the empty text", x.redraw(0), -100);
+        Check.write(x, "0/1,A+");
+        Check.due("redraw(0) by a text that ends too early", x.redraw(0), -106);
+        Check.write(x, "1/50");
+        x.type('0');
+        Check.due("redraw(2) by a text with too much", x.redraw(2), -104);
+        Check.dueText("nothing is changed", Check.told(x), told);
+        Check.due("the states", x.count(11), 4);
+    }
+
+    private static void promise3AFullBoard() {
+        Check.sentence("PANELS AND SCENES", "There are at most 10 panels on the board");
+        Counted x = Check.boardOf(10, "0/1");
+        Check.write(x, "4/2,A.");
+        Check.due("redraw(0) of ten panels", x.redraw(0), 1);
+        Check.dueText("the order then", Check.line(x), "1 2 3 4 5 6 7 8 9 0");
+        Check.due("redraw(9) of ten panels", x.redraw(9), 1);
+        Check.dueText("the order then", Check.line(x), "1 2 3 4 5 6 7 8 0 9");
+        Check.due("the panels then", x.count(0), 10);
     }
 
     private static void promise4TakeAway() {
-        StoryPanels x = Check.board("1/5,A+3", "1/6,A=3", "0/7");
-        Check.due("4: takeAway(1)", x.takeAway(1), 2);
-        Check.due("4: the history", x.count(11), 4);
-        Check.dueText("4: the order", Check.line(x), "2 0");
-        Check.due("4: it was taken away", x.takeAway(1), Check.UNKNOWN);
-        Check.due("4: it has no scene", x.panel(1, 0), Check.UNKNOWN);
-        Check.due("4: takeAway(2)", x.takeAway(2), 1);
-        Check.due("4: takeAway(0)", x.takeAway(0), 0);
-        Check.due("4: panels so far", x.count(1), 3);
-        for (int wrong : new int[] {-1, 0, 3, 10, 99, 100, MIN, MAX}) {
-            Check.due("4: takeAway(" + wrong + ")", x.takeAway(wrong), Check.UNKNOWN);
+        Check.sentence("Promise 4", "Takes a panel away.");
+        Counted x = Check.board("1/5,A+3", "1/6,A=3", "0/7", "1/8", "4/9,A-3");
+        Check.due("takeAway(1), between others", x.takeAway(1), 4);
+        Check.dueText("the order", Check.line(x), "2 0 3 4");
+        Check.due("the place of the next one", x.panel(3, 3), 1);
+        Check.due("the tick of the next one", x.panel(3, 4), 12);
+        Check.due("takeAway(2), the first one of the board", x.takeAway(2), 3);
+        Check.due("takeAway(0), the first one of its scene", x.takeAway(0), 2);
+        Check.due("what it picked up isn't held any more", x.count(7), 1);
+        Check.due("takeAway(4), the last one of the board", x.takeAway(4), 1);
+        Check.due("takeAway(3), the only one", x.takeAway(3), 0);
+        Check.dueText("the order of an empty board", Check.line(x), "");
+        Check.due("panels so far", x.count(1), 5);
+        Check.due("the sum of all durations", x.count(2), 0);
+        Check.due("a new panel has a new number", Check.put(x, "1/1"), 5);
+        Check.sentence("Promise 4", "Returns how many panels are on the board then");
+        Counted y = Check.boardOf(10, "2/3,B.");
+        for (int panel = 9; panel >= 0; panel--) {
+            Check.due("takeAway(" + panel + ") of ten", y.takeAway(panel), panel);
         }
-        Check.due("4: a new panel has a new number", Check.put(x, "1/1"), 3);
+        Check.sentence("Promise 4", "This is an act.");
+        Check.due("undo() of the latest one", y.undo(), 3);
+        Check.dueText("it is there again", Check.line(y), "0");
+        Check.due("and its event", y.event(0, 0, 1), 5);
+        y.undo();
+        Check.dueText("the one before, too", Check.line(y), "0 1");
     }
 
-    private static void promise5Move() {
-        StoryPanels x = Check.board("0/1,A+0", "0/2,A=0", "0/3,A-0", "1/4", "1/5");
-        Check.due("5: the breaks at first", x.count(3), 0);
-        Check.due("5: move(0, 0, 2)", x.move(0, 0, 2), 1);
-        Check.dueText("5: the order", Check.line(x), "1 2 0 3 4");
-        Check.dueText("5: the breaks", Check.breaks(x), "1:3:0:0:0");
-        Check.due("5: it is an act", x.count(11), 4);
-        Check.due("5: where it stands already", x.move(0, 0, 2), Check.NONE);
-        Check.due("5: move(0, 0, 1)", x.move(0, 0, 1), 2);
-        Check.dueText("5: the breaks then", Check.breaks(x), "1:3:0:0:0 0:1:0:0:0");
-        Check.due("5: move(0, 0, 0)", x.move(0, 0, 0), 0);
-        Check.dueText("5: the order is as at first", Check.line(x), "0 1 2 3 4");
-        Check.due("5: move(4, 1, 0), of two", x.move(4, 1, 0), 0);
-        Check.dueText("5: the order of the other scene", Check.line(x), "0 1 2 4 3");
-        Check.due("5: move(2, 1, 2), behind all of another scene", x.move(2, 1, 2), 0);
-        Check.dueText("5: the order over two scenes", Check.line(x), "0 1 4 3 2");
-        Check.due("5: its scene", x.panel(2, 0), 1);
-        Check.due("5: move(0, 4, 0), of an empty scene", x.move(0, 4, 0), 1);
-        Check.dueText("5: the order over three scenes", Check.line(x), "1 4 3 2 0");
-        Check.due("5: move(2, 1, 0), in its scene to the front", x.move(2, 1, 0), 1);
-        Check.dueText("5: the order behind it", Check.line(x), "1 2 4 3 0");
-        Check.due("5: the last place of its scene is that without it", x.move(2, 1, 2), 1);
-        Check.dueText("5: the order at last", Check.line(x), "1 4 3 2 0");
-        Check.due("5: the events stay", x.event(2, 0, 1), 1);
-        Check.due("5: the duration stays", x.panel(2, 1), 3);
-    }
-
-    private static void promise5MoveWrongInputs() {
-        StoryPanels x = Check.board("0/1", "0/2", "1/3");
+    private static void promise4Unknown() {
+        Check.sentence("Promise 4", "UNKNOWN");
+        Counted x = Check.board("1/5", "0/7", "1/8");
+        x.takeAway(0);
+        for (int panel : Check.wrong(-1, 0, 3, 10, 98, 99)) {
+            Check.due("takeAway(" + panel + ")", x.takeAway(panel), Check.UNKNOWN);
+        }
+        Check.dueText("nothing is changed", Check.line(x), "1 2");
         x.takeAway(1);
-        int before = x.undo();
-        x.takeAway(1);
-        for (int wrong : new int[] {-1, 1, 3, 10, 99, MIN, MAX}) {
-            Check.due("5: move(" + wrong + ", 9, 9)", x.move(wrong, 9, 9), Check.UNKNOWN);
-            Check.due("5: move(" + wrong + ", 0, 0)", x.move(wrong, 0, 0), Check.UNKNOWN);
-        }
-        for (int wrong : new int[] {-1, 5, MIN, MAX}) {
-            Check.due("5: move(0, " + wrong + ", 0)", x.move(0, wrong, 0), Check.UNKNOWN);
-            Check.due("5: move(0, " + wrong + ", -1)", x.move(0, wrong, -1), Check.UNKNOWN);
-        }
-        for (int wrong : new int[] {-1, 1, 2, MIN, MAX}) {
-            Check.due("5: move(0, 0, " + wrong + "), alone in it", x.move(0, 0, wrong), Check.BAD_VALUE);
-        }
-        for (int wrong : new int[] {-1, 2, 3, MIN, MAX}) {
-            Check.due("5: move(0, 1, " + wrong + "), behind one", x.move(0, 1, wrong), Check.BAD_VALUE);
-        }
-        for (int wrong : new int[] {-1, 1, MIN, MAX}) {
-            Check.due("5: move(0, 4, " + wrong + "), of an empty scene", x.move(0, 4, wrong), Check.BAD_VALUE);
-        }
-        Check.due("5: move(0, 0, 0), where it stands", x.move(0, 0, 0), Check.NONE);
-        Check.due("5: the history is as it was", x.count(11), before + 1);
-        Check.dueText("5: the order is as it was", Check.line(x), "0 2");
-    }
-
-    private static void promise6MoveScene() {
-        StoryPanels x = Check.board("0/1,A+0", "1/2,A=0", "2/3", "3/4", "4/5,A-0", "0/6,A=0");
-        Check.due("6: moveScene(1, 3)", x.moveScene(1, 3), 0);
-        Check.dueText("6: the order of the board", Check.line(x), "0 5 2 3 1 4");
-        dueScenes(x, 0, 3, 1, 2, 4);
-        Check.due("6: it is an act", x.count(11), 4);
-        Check.due("6: where it stands already", x.moveScene(1, 3), Check.NONE);
-        Check.due("6: moveScene(4, 0)", x.moveScene(4, 0), 1);
-        Check.dueText("6: the breaks", Check.breaks(x), "4:2:0:0:0");
-        Check.dueText("6: the order then", Check.line(x), "4 0 5 2 3 1");
-        dueScenes(x, 1, 4, 2, 3, 0);
-        Check.due("6: moveScene(4, 4)", x.moveScene(4, 4), 0);
-        dueScenes(x, 0, 3, 1, 2, 4);
-        Check.due("6: moveScene(0, 4)", x.moveScene(0, 4), 1);
-        Check.dueText("6: the breaks at last", Check.breaks(x), "1:3:0:0:0");
-        dueScenes(x, 4, 2, 0, 1, 3);
+        x.takeAway(2);
+        Check.due("takeAway(2) again, of an empty board", x.takeAway(2), Check.UNKNOWN);
+        Check.due("takeAway(-1) of an empty board", x.takeAway(-1), Check.UNKNOWN);
         x.undo();
-        dueScenes(x, 0, 3, 1, 2, 4);
-        Check.dueText("6: the order behind undo", Check.line(x), "0 5 2 3 1 4");
-        Check.due("6: an empty scene moves, too", new StoryPanels().moveScene(2, 4), 0);
-        int before = x.count(11);
-        for (int wrong : new int[] {-1, 5, MIN, MAX}) {
-            Check.due("6: moveScene(" + wrong + ", 0)", x.moveScene(wrong, 0), Check.UNKNOWN);
-            Check.due("6: moveScene(" + wrong + ", 5)", x.moveScene(wrong, 5), Check.UNKNOWN);
-            Check.due("6: moveScene(0, " + wrong + ")", x.moveScene(0, wrong), Check.BAD_VALUE);
-        }
-        Check.due("6: errors are no acts", x.count(11), before);
-    }
-
-    private static void dueScenes(StoryPanels x, int... places) {
-        for (int scene = 0; scene < 5; scene++) {
-            Check.due("6: the place of scene " + scene, x.scene(scene, 0), places[scene]);
-        }
+        Check.due("takeAway(2), where undo() brought it back", x.takeAway(2), 0);
     }
 
     private static void promise7Time() {
-        StoryPanels x = Check.board("0/1", "0/50", "0/99");
-        Check.due("7: time(0, 99)", x.time(0, 99), 1);
-        Check.due("7: the duration", x.panel(0, 1), 99);
-        Check.due("7: it is an act", x.count(11), 4);
-        Check.due("7: time(2, 1)", x.time(2, 1), 99);
-        Check.due("7: where it is so", x.time(2, 1), Check.NONE);
-        Check.due("7: time(1, 51)", x.time(1, 51), 50);
-        Check.due("7: the sum", x.count(2), 151);
+        Check.sentence("Promise 7", "Gives a panel another duration.");
+        Counted x = Check.board("0/1", "0/50", "0/99");
+        Check.due("time(0, 99), the longest one", x.time(0, 99), 1);
+        Check.due("the duration", x.panel(0, 1), 99);
+        Check.due("time(2, 1), the shortest one", x.time(2, 1), 99);
+        Check.due("the duration", x.panel(2, 1), 1);
+        Check.due("time(1, 51)", x.time(1, 51), 50);
+        Check.due("the sum", x.count(2), 151);
+        Check.due("time(1, 2)", x.time(1, 2), 51);
+        Check.sentence("Promise 7", "This is an act.");
+        Check.due("undo()", x.undo(), 3);
+        Check.due("the duration behind it", x.panel(1, 1), 51);
         x.undo();
-        Check.due("7: the duration behind undo", x.panel(1, 1), 50);
+        Check.due("the duration behind one more", x.panel(1, 1), 50);
+        Check.sentence("Promise 7", "NONE if it is so already.");
+        Check.due("time(1, 50)", x.time(1, 50), Check.NONE);
+        Check.due("time(0, 99), the longest one", x.time(0, 99), Check.NONE);
+        Check.due("time(2, 1), the shortest one", x.time(2, 1), Check.NONE);
+        Check.due("the states", x.count(11), 2);
+    }
+
+    private static void promise7Refused() {
+        Counted x = Check.board("0/1", "0/50");
         x.takeAway(1);
-        int before = x.count(11);
-        for (int wrong : new int[] {-1, 1, 3, 99, MIN, MAX}) {
-            Check.due("7: time(" + wrong + ", 7)", x.time(wrong, 7), Check.UNKNOWN);
-            Check.due("7: time(" + wrong + ", 100)", x.time(wrong, 100), Check.UNKNOWN);
+        Check.sentence("Promise 7", "UNKNOWN; BAD_VALUE");
+        for (int panel : Check.wrong(-1, 1, 2, 10, 98, 99)) {
+            Check.due("time(" + panel + ", 7)", x.time(panel, 7), Check.UNKNOWN);
+            Check.due("time(" + panel + ", 100), UNKNOWN comes first", x.time(panel, 100), Check.UNKNOWN);
+            Check.due("time(" + panel + ", 0), UNKNOWN comes first", x.time(panel, 0), Check.UNKNOWN);
         }
-        for (int wrong : new int[] {-1, 0, 100, MIN, MAX}) {
-            Check.due("7: time(0, " + wrong + ")", x.time(0, wrong), Check.BAD_VALUE);
+        Check.sentence("Promise 7", "duration: 1 to 99");
+        for (int duration : Check.wrong(-1, 0, 100, 101, -99)) {
+            Check.due("time(0, " + duration + ")", x.time(0, duration), Check.BAD_VALUE);
         }
-        Check.due("7: where it is so, at the bound", x.time(0, 99), Check.NONE);
-        Check.due("7: errors and NONE are no acts", x.count(11), before);
-    }
-
-    private static void promise8Mend() {
-        StoryPanels x = Check.board("1/1,A=0", "1/2,A+0", "0/3", "1/4,A-0");
-        Check.due("8: the breaks ahead of it", x.count(3), 2);
-        int before = x.count(11);
-        String told = Check.told(x);
-        Check.due("8: mend(1)", x.mend(1), 1);
-        Check.dueText("8: the order", Check.line(x), "2 1 0 3");
-        Check.due("8: the breaks behind it", x.count(3), 0);
-        Check.due("8: the history", x.count(11), Math.min(4, before + 1));
-        Check.due("8: mend(1) again", x.mend(1), Check.NONE);
-        Check.due("8: mend of a scene without breaks", x.mend(0), Check.NONE);
-        Check.due("8: mend of an empty scene", x.mend(3), Check.NONE);
-        Check.dueText("8: NONE changes nothing", Check.line(x), "2 1 0 3");
-        x.undo();
-        Check.dueText("8: undo", Check.told(x), told);
-        Check.due("8: a scene that brings no fewer breaks", x.mend(0), Check.NONE);
-        for (int wrong : new int[] {-1, 5, MIN, MAX}) {
-            Check.due("8: mend(" + wrong + ")", x.mend(wrong), Check.UNKNOWN);
-        }
-        Check.dueText("8: nothing has changed", Check.told(x), told);
-    }
-
-    private static void promise8MendTakesTheLowestPanelFirst() {
-        // Any of the three could move and save the turn of A; the lowest one does, from the last place.
-        StoryPanels x = Check.board("2/1,A.", "2/2,A>", "2/3,A<");
-        x.move(0, 2, 2);
-        Check.dueText("8: the order ahead of it", Check.line(x), "1 2 0");
-        Check.due("8: the breaks ahead of it", x.count(3), 1);
-        Check.due("8: mend(2)", x.mend(2), 1);
-        Check.dueText("8: the stand comes between", Check.line(x), "1 0 2");
-        // Here nothing but the first place, and no other panel, helps.
-        StoryPanels z = Check.board("2/1,A+0", "2/1,A=0", "2/1,A=0");
-        Check.due("8: the picking up at last", z.move(0, 2, 2), 2);
-        Check.due("8: mend(2) to the first place", z.mend(2), 1);
-        Check.dueText("8: the order then", Check.line(z), "0 1 2");
-        // Panel 0 can't save any break. Panel 1 saves one at the places 2 and 3 and goes to 2:
-        // 0 2 1 3 4. Now 1 can't save any more, but 2 can, at the places 3 and 4, and goes to 3.
-        StoryPanels y = Check.board("2/1,B.", "2/2,A>", "2/3,A<", "2/4,A>", "2/5,A<");
-        Check.due("8: three turns", y.count(3), 3);
-        Check.due("8: mend(2) of three turns", y.mend(2), 2);
-        Check.dueText("8: the order of it", Check.line(y), "0 1 3 2 4");
-        Check.due("8: one turn is left", y.count(3), 1);
-    }
-
-    private static void promise8MendMovesTwiceAtMost() {
-        StoryPanels x = Check.board("3/1,A-0", "3/1,A+0", "3/1,B-1", "3/1,B+1", "3/1,C-2", "3/1,C+2");
-        Check.due("8: the breaks of three pairs", x.count(3), 3);
-        String told = Check.told(x);
-        Check.due("8: two moves", x.mend(3), 2);
-        Check.dueText("8: the order of two moves", Check.line(x), "1 0 3 2 4 5");
-        Check.due("8: one break is left", x.count(3), 1);
-        Check.due("8: the one act of two moves", x.undo(), 3);
-        Check.dueText("8: undo of both", Check.told(x), told);
-        Check.due("8: both again", x.mend(3), 2);
-        Check.due("8: the third one", x.mend(3), 1);
-        Check.due("8: no break is left", x.count(3), 0);
-        Check.due("8: nothing to mend is left", x.mend(3), Check.NONE);
+        Check.due("the duration is as it was", x.panel(0, 1), 1);
+        Check.due("the states", x.count(11), 3);
     }
 }
