@@ -214,6 +214,15 @@ public final class HistoryTest {
         Check.due("the panels", x.count(0), 1);
         x.undo();
         Check.due("restore() behind undo()", x.restore(), Check.NONE);
+        Check.sentence("HISTORY", "There is one snapshot, empty at first.");
+        Counted one = Check.board("0/1,A.", "0/2,B.");
+        one.keep();
+        one.takeAway(0);
+        one.keep();
+        one.undo();
+        Check.due("the second keep() leaves no other one", one.restore(), 1);
+        Check.due("restore() again brings the same one", one.restore(), 1);
+        Check.dueText("its panels", Check.line(one), "1");
     }
 
     private static void promise13AnEmptyBoard() {

@@ -21,6 +21,9 @@ public final class PanelsTest {
         promise4Unknown();
         promise7Time();
         promise7Refused();
+        onTheBoardOrTakenAway();
+        theOrderOfTheBoard();
+        fiveHundredAndTwelveCalls();
         Check.end("PanelsTest");
     }
 
@@ -402,5 +405,73 @@ public final class PanelsTest {
         }
         Check.due("the duration is as it was", x.panel(0, 1), 1);
         Check.due("the states", x.count(11), 3);
+    }
+
+    /** What each method with a panel answers for one that isn't on the board. */
+    private static void dueUnknown(String what, Counted x, int panel) {
+        Check.due(what + ": redraw", x.redraw(panel), Check.UNKNOWN);
+        Check.due(what + ": takeAway", x.takeAway(panel), Check.UNKNOWN);
+        Check.due(what + ": move", x.move(panel, 0, 0), Check.UNKNOWN);
+        Check.due(what + ": time", x.time(panel, 5), Check.UNKNOWN);
+        Check.due(what + ": panel", x.panel(panel, 0), Check.UNKNOWN);
+        Check.due(what + ": event", x.event(panel, 0, 0), Check.UNKNOWN);
+        Check.due(what + ": holder", x.holder(0, panel), Check.UNKNOWN);
+        Check.due(what + ": ifMoved", x.ifMoved(panel, 0, 0), Check.UNKNOWN);
+        Check.due(what + ": bestPlace", x.bestPlace(panel, 0), Check.UNKNOWN);
+    }
+
+    private static void onTheBoardOrTakenAway() {
+        Check.sentence("PANELS AND SCENES", "a panel is on the board, or was taken away");
+        Counted x = Check.board("0/1,A.", "0/2,B.", "0/3,C.");
+        dueUnknown("the one behind the latest", x, 3);
+        x.takeAway(2);
+        dueUnknown("the latest, which was taken away", x, 2);
+        x.takeAway(0);
+        dueUnknown("the first, which was taken away", x, 0);
+        x.undo();
+        Check.due("the first, where undo() brought it back", x.panel(0, 1), 1);
+        dueUnknown("the latest, which is still away", x, 2);
+        Check.put(x, "0/4,D.");
+        dueUnknown("the one that was taken away, where another one was put", x, 2);
+        Check.due("the other one", x.panel(3, 1), 4);
+        x.undo();
+        dueUnknown("the other one behind undo()", x, 3);
+        Counted full = Check.boardOf(10, "4/1,A.");
+        for (int panel : new int[] {-1, 10, 98, 99}) {
+            dueUnknown("number " + panel + " of ten panels", full, panel);
+        }
+        Check.due("the tenth one", full.panel(9, 3), 9);
+    }
+
+    private static void theOrderOfTheBoard() {
+        Check.sentence("PANELS AND SCENES", "The order of the board is that of the scenes, and in each of the panels of"
+                + " its row.");
+        Counted x = Check.board("4/1", "3/2", "2/3", "1/4", "0/5", "0/6", "1/7", "2/8", "3/9", "4/10");
+        Check.dueText("the order at first", Check.line(x), "4 5 3 6 2 7 1 8 0 9");
+        x.moveScene(4, 0);
+        x.moveScene(0, 4);
+        x.moveScene(1, 2);
+        Check.dueText("the order of 4, 2, 1, 3, 0", Check.line(x), "0 9 2 7 3 6 1 8 4 5");
+        x.move(9, 2, 1);
+        Check.dueText("behind a move from the first scene to the second one", Check.line(x), "0 2 9 7 3 6 1 8 4 5");
+        Check.sentence("PANELS AND SCENES", "The panels of a scene stand in a row, with places from 0.");
+        int[] places = {0, 0, 0, 0, 0, 1, 1, 2, 1, 1};
+        for (int panel = 0; panel < 10; panel++) {
+            Check.due("the place of panel " + panel, x.panel(panel, 3), places[panel]);
+        }
+    }
+
+    private static void fiveHundredAndTwelveCalls() {
+        Check.sentence("What it is", "An object is used for at most 512 calls after it has been made");
+        Counted x = new Counted();
+        x.type('0');
+        x.type('/');
+        x.type('1');
+        x.putPanel();
+        for (int call = 5; call <= 510; call++) {
+            Check.due("time() as call " + call, x.time(0, call % 2 == 0 ? 1 : 99), call % 2 == 0 ? 99 : 1);
+        }
+        Check.due("undo() as call 511", x.undo(), 3);
+        Check.due("panel() as call 512", x.panel(0, 1), 99);
     }
 }

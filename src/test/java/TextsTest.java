@@ -51,8 +51,10 @@ public final class TextsTest {
         }
         Check.due("the length of the text", x.count(12), 60);
         Check.due("no call was an act", x.count(11), 0);
+        Check.sentence("TEXTS", "There is a text of at most 60 characters, empty at first.");
         Check.due("clearText() of a full text", x.clearText(), 60);
         Check.due("type behind it", x.type('0'), 1);
+        Check.due("clearText() of a new object", new Counted().clearText(), 0);
     }
 
     private static void promise10ClearText() {
