@@ -40,8 +40,16 @@ final class Check {
 
     /** Begins the test of a sentence: where it stands in the document, and its words. */
     static void sentence(String where, String words) {
+        topic(where + ", \"" + words + "\"");
+        if (!Document.says(where, words)) {
+            fail("these words do not stand there");
+        }
+    }
+
+    /** Begins a test that holds the program to more than one sentence. */
+    static void topic(String what) {
         endOfSentence();
-        sentence = where + ", \"" + words + "\"";
+        sentence = what;
     }
 
     private static void endOfSentence() {

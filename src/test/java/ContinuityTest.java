@@ -1,4 +1,4 @@
-/** CONTINUITY: each kind of break by itself, in the order in which breaks come. */
+/** EVENTS and CONTINUITY: each kind of event and of break by itself, in the order in which breaks come. */
 public final class ContinuityTest {
     public static void main(String[] args) {
         atFirst();
@@ -10,6 +10,7 @@ public final class ContinuityTest {
         turnsWithoutHavingStood();
         whatIsForgotten();
         everyCharacterAndProp();
+        theKindsOfEvents();
         Check.end("ContinuityTest");
     }
 
@@ -159,6 +160,30 @@ public final class ContinuityTest {
         Counted x = Check.board("0/1,A>", "0/2,A<", "0/3,A>");
         Check.due("move of the middle one to the next scene", x.move(1, 1, 0), 0);
         Check.due("and back behind the others", x.move(1, 0, 2), 1);
+    }
+
+    private static void dueKind(String event, int kind, int prop, int holder, String breaks) {
+        Counted x = Check.board("0/1,B+4,C>", "0/2," + event);
+        Check.due("event(1, 0, 1) of " + event, x.event(1, 0, 1), kind);
+        Check.due("event(1, 0, 2) of " + event, x.event(1, 0, 2), prop);
+        Check.due("holder(4, 1) behind " + event, x.holder(4, 1), holder);
+        Check.dueText("the breaks of " + event, Check.breaks(x), breaks);
+    }
+
+    private static void theKindsOfEvents() {
+        Check.sentence("EVENTS", "An event is of a character, and of a kind: 0 picks a prop up, 1 puts a prop down, 2 is"
+                + " drawn with a prop, 3 moves to the right, 4 moves to the left, 5 stands.");
+        dueKind("C+4", 0, 4, 2, "1:1:2:4:0");
+        dueKind("B+4", 0, 4, 1, "1:1:1:4:0");
+        dueKind("C+5", 0, 5, 1, "");
+        dueKind("B-4", 1, 4, Check.NONE, "");
+        dueKind("C-4", 1, 4, Check.NONE, "1:2:2:4:0");
+        dueKind("B=4", 2, 4, 1, "");
+        dueKind("C=4", 2, 4, 2, "1:3:2:4:0");
+        dueKind("C>", 3, Check.NONE, 1, "");
+        dueKind("C<", 4, Check.NONE, 1, "1:5:2:_:0");
+        dueKind("C.", 5, Check.NONE, 1, "");
+        dueKind("B.", 5, Check.NONE, 1, "1:4:1:4:_");
     }
 
     /** Every character and prop breaks, and is told, like the others. */

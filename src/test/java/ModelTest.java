@@ -23,9 +23,9 @@ public final class ModelTest {
     }
 
     public static void main(String[] args) {
-        Check.sentence("CONTINUITY", "the breaks of any three events, in one panel to three");
+        Check.topic("the breaks of any three events, in one panel to three");
         everyThreeEvents();
-        Check.sentence("Promises 1 to 23", "in long runs of calls");
+        Check.topic("promises 1 to 23 in long runs of calls");
         for (int run = 0; run < RUNS; run++) {
             new ModelTest(run).go();
         }

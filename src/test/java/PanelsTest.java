@@ -3,7 +3,6 @@ public final class PanelsTest {
     private static final String SIX_EVENTS = "1/5,A+0,A=0,B>,B.,C<,A-0";
 
     public static void main(String[] args) {
-        promise1TheConstants();
         promise1ANewObject();
         promise1ObjectsAreApart();
         promise2BehindTheOthers();
@@ -13,6 +12,7 @@ public final class PanelsTest {
         promise2TenOnTheBoard();
         promise2NinetyNineEver();
         promise3DurationAndEvents();
+        promise3TheTextStays();
         promise3ItsOwnScene();
         promise3AnotherScene();
         promise3Refused();
@@ -22,18 +22,10 @@ public final class PanelsTest {
         promise7Time();
         promise7Refused();
         onTheBoardOrTakenAway();
+        whatAPanelHas();
         theOrderOfTheBoard();
         fiveHundredAndTwelveCalls();
         Check.end("PanelsTest");
-    }
-
-    private static void promise1TheConstants() {
-        Check.sentence("The public face", "the values of the constants");
-        Check.due("UNKNOWN", StoryPanels.UNKNOWN, -1);
-        Check.due("BAD_VALUE", StoryPanels.BAD_VALUE, -2);
-        Check.due("FULL", StoryPanels.FULL, -3);
-        Check.due("NOT_POSSIBLE", StoryPanels.NOT_POSSIBLE, -4);
-        Check.due("NONE", StoryPanels.NONE, -5);
     }
 
     private static void promise1ANewObject() {
@@ -243,6 +235,25 @@ public final class PanelsTest {
         Check.due("the text stays", x.count(12), 6);
     }
 
+    private static void promise3TheTextStays() {
+        Check.sentence("Promise 3", "Draws a panel anew by the text, which stays");
+        Counted x = Check.board("0/5", "0/6", "1/7");
+        Check.write(x, "0/8,A.");
+        Check.due("redraw(0)", x.redraw(0), 1);
+        Check.due("the length of the text", x.count(12), 6);
+        Check.due("redraw(1) by the same text", x.redraw(1), 1);
+        Check.due("its duration", x.panel(1, 1), 8);
+        Check.due("redraw(2) by the same text, in another scene", x.redraw(2), 1);
+        Check.due("a character behind the same text", x.type(','), 7);
+        Check.due("redraw(0) by the text that ends too early", x.redraw(0), -107);
+        x.type('B');
+        x.type('>');
+        Check.due("redraw(0) by the longer text", x.redraw(0), 2);
+        Check.due("putPanel() of the same text", x.putPanel(), 3);
+        Check.due("its events", x.panel(3, 2), 2);
+        Check.due("the events of panel 1", x.panel(1, 2), 1);
+    }
+
     private static void promise3ItsOwnScene() {
         Check.sentence("Promise 3", "its number stays, and its place, if the scene of the text is its own");
         Counted x = Check.board("0/9", "1/5,A+3,B.", "1/6,A=3", "1/7", "2/8");
@@ -377,6 +388,7 @@ public final class PanelsTest {
         Check.due("the duration", x.panel(2, 1), 1);
         Check.due("time(1, 51)", x.time(1, 51), 50);
         Check.due("the sum", x.count(2), 151);
+        Check.sentence("Promise 7", "Returns the previous one");
         Check.due("time(1, 2)", x.time(1, 2), 51);
         Check.sentence("Promise 7", "This is an act.");
         Check.due("undo()", x.undo(), 3);
@@ -441,6 +453,47 @@ public final class PanelsTest {
             dueUnknown("number " + panel + " of ten panels", full, panel);
         }
         Check.due("the tenth one", full.panel(9, 3), 9);
+    }
+
+    private static void whatAPanelHas() {
+        Check.sentence("PANELS AND SCENES", "A panel has a scene (0 to 4), a duration (1 to 99 ticks), and 0 to 6 events in"
+                + " their order.");
+        String[] texts = {"0/1", "1/99,A+9", "2/9,B-8,A=7", "3/10,C>,C.,C<", "4/50,D.,D.,D+0,D-0", "4/1,A.,B.,C.,D.,A.",
+            "0/99,D<,C>,B=6,A-5,B+4,C."};
+        Counted x = Check.board(texts);
+        for (int panel = 0; panel < texts.length; panel++) {
+            Check.dueText("panel " + panel, textOf(x, panel), texts[panel]);
+        }
+        Check.write(x, "2/33");
+        x.redraw(6);
+        Check.dueText("the six events are gone", textOf(x, 6), "2/33");
+        x.undo();
+        Check.dueText("and are back", textOf(x, 6), texts[6]);
+        Check.sentence("PANELS AND SCENES", "There are at most 10 panels on the board, and at most 99 ever, numbered from"
+                + " 0");
+        Counted y = Check.boardOf(10, "1/1");
+        Check.due("an eleventh one", y.putPanel(), Check.FULL);
+        for (int panel = 0; panel < 89; panel++) {
+            y.takeAway(panel);
+            Check.due("another one", y.putPanel(), panel + 10);
+        }
+        Check.due("panels so far", y.count(1), 99);
+        y.takeAway(89);
+        Check.due("a hundredth one", y.putPanel(), Check.FULL);
+        Check.dueText("the ninety-ninth one is there", textOf(y, 98), "1/1");
+    }
+
+    /** The text of which a panel was made, told by what panel() and event() answer. */
+    private static String textOf(Counted x, int panel) {
+        StringBuilder text = new StringBuilder();
+        text.append(x.panel(panel, 0)).append('/').append(x.panel(panel, 1));
+        for (int event = 0; event < x.panel(panel, 2); event++) {
+            text.append(',').append("ABCD".charAt(x.event(panel, event, 0)));
+            text.append("+-=><.".charAt(x.event(panel, event, 1)));
+            int prop = x.event(panel, event, 2);
+            text.append(prop == Check.NONE ? "" : String.valueOf(prop));
+        }
+        return text.toString();
     }
 
     private static void theOrderOfTheBoard() {

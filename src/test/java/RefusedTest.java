@@ -1,4 +1,4 @@
-/** ERRORS: the order of the checks, and that a call that is refused, or finds nothing, changes nothing. */
+/** ERRORS: the constants, the order of the checks, and that a call in vain changes nothing. */
 public final class RefusedTest {
     /** How a board is made; it is made anew for each comparison. */
     private interface Setup {
@@ -19,6 +19,7 @@ public final class RefusedTest {
         questions();
         theOrderOfTheChecks();
         noneOnlyIfNoErrorApplies();
+        theConstants();
         Check.end("RefusedTest");
     }
 
@@ -197,6 +198,29 @@ public final class RefusedTest {
         asks("ifMoved(0, 1, 1)", 2, x -> x.ifMoved(0, 1, 1));
         asks("bestPlace(2, 0)", 0, x -> x.bestPlace(2, 0));
         asks("holder(3, 2)", 0, x -> x.holder(3, 2));
+    }
+
+    private static void theConstants() {
+        Counted x = tenPanels();
+        x.takeAway(1);
+        Check.sentence("ERRORS", "UNKNOWN = -1: There is no such panel (or it was taken away), scene, prop or event.");
+        Check.due("UNKNOWN", StoryPanels.UNKNOWN, -1);
+        Check.due("panel(10, 0)", x.panel(10, 0), -1);
+        Check.due("panel(1, 0), which was taken away", x.panel(1, 0), -1);
+        Check.due("scene(5, 0)", x.scene(5, 0), -1);
+        Check.due("holder(10, 0)", x.holder(10, 0), -1);
+        Check.due("event(0, 6, 0)", x.event(0, 6, 0), -1);
+        Check.sentence("ERRORS", "BAD_VALUE = -2: Another argument is out of range.");
+        Check.due("BAD_VALUE", StoryPanels.BAD_VALUE, -2);
+        Check.due("time(0, 100)", x.time(0, 100), -2);
+        Check.sentence("ERRORS", "FULL = -3: There is no more room.");
+        Check.due("FULL", StoryPanels.FULL, -3);
+        Check.due("putPanel() behind ten", tenPanels().putPanel(), -3);
+        Check.sentence("ERRORS", "NOT_POSSIBLE = -4: This is not possible.");
+        Check.due("NOT_POSSIBLE", StoryPanels.NOT_POSSIBLE, -4);
+        Check.sentence("ERRORS", "NONE = -5: There is no such thing; not an error.");
+        Check.due("NONE", StoryPanels.NONE, -5);
+        Check.due("at(9) of nine", x.at(9), -5);
     }
 
     private static void theOrderOfTheChecks() {

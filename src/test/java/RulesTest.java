@@ -38,6 +38,7 @@ public final class RulesTest {
         Check.sentence("LANGUAGE.md, rule 1", "The face: the class of the document, public and final");
         int modifiers = StoryPanels.class.getModifiers();
         holds("the class is public and final", Modifier.isPublic(modifiers) && Modifier.isFinal(modifiers));
+        Check.sentence("LANGUAGE.md, rule 1", "the public constructor, methods and constants of the document");
         Map<String, String> methods = new TreeMap<>();
         for (Method method : StoryPanels.class.getDeclaredMethods()) {
             String name = method.getName();
@@ -51,7 +52,6 @@ public final class RulesTest {
                 holds(name + " is no static one", !Modifier.isStatic(method.getModifiers()));
             } else {
                 holds(name + " is private", Modifier.isPrivate(method.getModifiers()));
-                holds(name + " bears no public name", !FACE.containsKey(name));
             }
         }
         Check.dueText("the methods", methods.toString(), new TreeMap<>(FACE).toString());
@@ -59,31 +59,60 @@ public final class RulesTest {
         Check.due("constructors", made.length, 1);
         Check.due("its parameters", made[0].getParameterCount(), 0);
         holds("it is public", Modifier.isPublic(made[0].getModifiers()));
+        for (String name : FACE.keySet()) {
+            Check.sentence("The public face", "public int " + name + "(");
+            Check.due("methods of this name", timesIn(StoryPanels.class.getMethods(), name), 1);
+        }
+    }
+
+    private static int timesIn(Method[] methods, String name) {
+        int times = 0;
+        for (Method method : methods) {
+            times += method.getName().equals(name) ? 1 : 0;
+        }
+        return times;
     }
 
     private static void theClassesInside() {
-        Check.sentence("LANGUAGE.md, rules 1 and 11", "the classes inside it, which are private or package-visible and"
+        Check.sentence("LANGUAGE.md, rule 1", "the classes inside it, which are private or package-visible and"
                 + " static");
         Class<?>[] inside = StoryPanels.class.getDeclaredClasses();
-        holds("some twelve classes at most", inside.length < 12);
         for (Class<?> one : inside) {
             int modifiers = one.getModifiers();
             holds(one + " is static", Modifier.isStatic(modifiers));
             holds(one + " is private or package-visible",
                     !Modifier.isPublic(modifiers) && !Modifier.isProtected(modifiers));
         }
-        for (Class<?> one : Arrays.copyOf(inside, inside.length + 1)) {
-            Class<?> of = one == null ? StoryPanels.class : one;
+        Check.sentence("LANGUAGE.md, rule 11", "the file has at most some twelve classes");
+        holds("some twelve classes at most", inside.length < 12);
+        Class<?>[] all = Arrays.copyOf(inside, inside.length + 1);
+        all[inside.length] = StoryPanels.class;
+        theirMethods(all);
+        theirFields(all);
+    }
+
+    private static void theirMethods(Class<?>[] all) {
+        for (Class<?> of : all) {
             for (Method method : of.getDeclaredMethods()) {
+                Check.sentence("LANGUAGE.md, rule 11", "A method takes at most seven parameters.");
                 holds(method + " has seven parameters at most", method.getParameterCount() <= 7);
-                holds(method + " is not synchronized", !Modifier.isSynchronized(method.getModifiers()));
+                Check.sentence("LANGUAGE.md, rule 1", "No private method bears the name of a public one.");
+                boolean hidden = Modifier.isPrivate(method.getModifiers());
+                holds(method + " bears no public name", !hidden || !FACE.containsKey(method.getName()));
             }
+        }
+    }
+
+    private static void theirFields(Class<?>[] all) {
+        for (Class<?> of : all) {
             int fields = 0;
             for (Field field : of.getDeclaredFields()) {
+                Check.sentence("LANGUAGE.md, rule 5", "Static fields are final");
                 boolean isStatic = Modifier.isStatic(field.getModifiers());
-                fields += isStatic ? 0 : 1;
                 holds(field + " is final if it is static", !isStatic || Modifier.isFinal(field.getModifiers()));
+                fields += isStatic ? 0 : 1;
             }
+            Check.sentence("LANGUAGE.md, rule 11", "a class some twenty fields beside its constants");
             holds(of + " has some twenty fields at most", fields <= 20);
         }
     }
@@ -100,22 +129,44 @@ public final class RulesTest {
             }
         }
         Check.dueText("the constants", fields.toString(), "[BAD_VALUE, FULL, NONE, NOT_POSSIBLE, UNKNOWN]");
+        dueConstant("UNKNOWN", StoryPanels.UNKNOWN, -1);
+        dueConstant("BAD_VALUE", StoryPanels.BAD_VALUE, -2);
+        dueConstant("FULL", StoryPanels.FULL, -3);
+        dueConstant("NOT_POSSIBLE", StoryPanels.NOT_POSSIBLE, -4);
+        dueConstant("NONE", StoryPanels.NONE, -5);
+    }
+
+    private static void dueConstant(String name, int constant, int due) {
+        Check.sentence("The public face", "public static final int " + name + " = " + due + ";");
+        Check.due(name, constant, due);
     }
 
     private static void theWords(String source) {
-        Check.sentence("LANGUAGE.md, rules 2 to 6 and 13", "what is ruled out by its word");
         String code = source.replaceAll("//[^\n]*", "").replaceAll("(?s)/\\*.*?\\*/", "");
-        String[] words = {"throw", "throws", "try", "catch", "synchronized", "assert", "package", "protected",
-            "Object", "Class", "Thread", "Random", "random", "Scanner", "Runtime", "hashCode", "exit",
-            "nanoTime", "currentTimeMillis", "System\\.out", "System\\.err", "System\\.in"};
-        for (String word : words) {
-            holds("without the word " + word, !Pattern.compile("\\b" + word + "\\b").matcher(code).find());
-        }
+        Check.sentence("LANGUAGE.md, rule 6", "No throw, try, catch, synchronized, assert");
+        without(code, "throw", "throws", "try", "catch", "synchronized", "assert");
+        Check.sentence("LANGUAGE.md, rule 13", "No clock, no randomness, no file, network, thread or environment");
+        without(code, "Thread", "Random", "random", "Scanner", "Runtime", "exit");
+        Check.sentence("LANGUAGE.md, rule 4", "The library: only what stands here.");
+        without(code, "System\\.(?!arraycopy\\b)\\w+", "import (?!java\\.util\\.(ArrayList|List|Arrays|Iterator);)",
+                "Object", "Class");
+        Check.sentence("LANGUAGE.md, rule 6", "No equals, hashCode or toString of your own objects or records");
+        without(code, "hashCode");
+        Check.sentence("LANGUAGE.md, rule 1", "no other public, protected or package-visible member");
+        without(code, "protected");
+        Check.sentence("LANGUAGE.md, rule 2", "no lambda, no method reference");
         holds("without a method reference", !code.contains("::"));
         String withoutCases = code.replaceAll("\\b(case\\b[^;{}]*?|default\\s*)->", "");
         holds("without a lambda", !withoutCases.contains("->"));
+        Check.sentence("LANGUAGE.md, rule 5", "no static initialiser block");
         holds("without a static initialiser", !Pattern.compile("\\bstatic\\s*\\{").matcher(code).find());
-        int[] strange = code.chars().filter(sign -> sign > 127).toArray();
-        Check.due("signs above 127", strange.length, 0);
+        Check.sentence("LANGUAGE.md, rule 4", "constants, whose signs are 1 to 127");
+        Check.due("signs above 127", code.chars().filter(sign -> sign > 127).count(), 0);
+    }
+
+    private static void without(String code, String... words) {
+        for (String word : words) {
+            holds("without " + word, !Pattern.compile("\\b(" + word + ")\\b").matcher(code).find());
+        }
     }
 }
